@@ -34,8 +34,8 @@ public final class ModelTest {
         int style = run % 5;
         int calls = 0;
         while (calls < CALLS - 110 && wrong < MOST_TOLD) {
-            boolean filling = style == 1 && calls < 130 || style == 2 && calls < 60;
-            int dice = filling ? below(14) : below(100);
+            boolean filling = style == 1 && calls < 125 || style == 2 && calls < 60;
+            int dice = filling ? below(12) : below(100);
             if (dice < 12) {
                 calls += putSomewhere(run, real, model);
             } else if (dice < 16 && style != 3) {

@@ -124,6 +124,10 @@ public final class PromisesTest {
         due("kind of the line put in", x.line(2, 0), TEXT);
         due("kind of the line moved down", x.line(3, 0), PICTURE);
         due("states", x.count(STATES), 5);
+        WindowLines y = pictures(200);
+        y.scroll(50);
+        due("put before the only line", y.put(0, PICTURE, 0), 400);
+        dueWindow("the only line stays the anchor", y, 1, 50, 1);
     }
 
     private static void promise2PutEdges() {
@@ -456,6 +460,12 @@ public final class PromisesTest {
         dueProgram("  putx 0 0 0;", -1002);
         dueProgram("Put 0 0 0;", -1000);
         dueProgram("pu", -1000);
+        dueProgram("toz 0;", -1000);
+        dueProgram("ato 0;", -1000);
+        dueProgram("to`0;", -1002);
+        dueProgram("to{0;", -1002);
+        dueProgram("to/0;", -1002);
+        dueProgram("to:0;", -1002);
         dueProgram(";", -1000);
         dueProgram("7;", -1000);
         dueProgram("to 0;;", -1005);
@@ -534,6 +544,8 @@ public final class PromisesTest {
         due("one dot of it is", edge.count(SHOWN), 3);
         edge.scroll(49);
         due("a line that ends at the top is not", edge.count(SHOWN), 2);
+        edge.scroll(-1);
+        due("its last dot is", edge.count(SHOWN), 3);
     }
 
     private static void promise15Line() {
@@ -625,6 +637,9 @@ public final class PromisesTest {
         x.scroll(-1);
         due("202 of 203", x.share(), 995);
         due("as high as the window", pictures(40, 60).share(), 0);
+        WindowLines higher = pictures(40, 61);
+        higher.scroll(1);
+        due("higher than the window by a dot", higher.share(), 1000);
         due("lower than the window", pictures(40).share(), 0);
         due("without lines", new WindowLines().share(), 0);
     }
