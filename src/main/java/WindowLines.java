@@ -378,7 +378,7 @@ public final class WindowLines {
         }
 
         int guess(int kind) {
-            if (!isKind(kind) || measuredCounts[kind] <= 0) {
+            if (kind < 0 || kind >= KINDS || measuredCounts[kind] <= 0) {
                 return FIRST_GUESS;
             }
             return measuredSums[kind] / measuredCounts[kind];
