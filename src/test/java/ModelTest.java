@@ -8,6 +8,8 @@ import java.util.regex.Pattern;
 public final class ModelTest {
     private static final int RUNS = 4000;
     private static final int CALLS = 512;
+    // A long program and the last looks must not bring an object beyond its calls.
+    private static final int LONGEST_STEP = 150;
     private static final int MOST_TOLD = 20;
 
     private static int wrong = 0;
@@ -33,7 +35,7 @@ public final class ModelTest {
         Model model = new Model();
         int style = run % 5;
         int calls = 0;
-        while (calls < CALLS - 110 && wrong < MOST_TOLD) {
+        while (calls < CALLS - LONGEST_STEP && wrong < MOST_TOLD) {
             boolean filling = style == 1 && calls < 125 || style == 2 && calls < 60;
             int dice = filling ? below(12) : below(100);
             if (dice < 12) {
@@ -332,10 +334,8 @@ public final class ModelTest {
                 anchorOn(anchorNumber() + 1);
             }
             int first = anchorNumber();
-            for (int i = first + 1; i < lines.size(); i++) {
-                if (fromAnchor(first, i) < shift + height) {
-                    lines.get(i).measured = true;
-                }
+            for (int i = first + 1; i < lines.size() && fromAnchor(first, i) < shift + height; i++) {
+                lines.get(i).measured = true;
             }
             int last = lines.size() - 1;
             int end = fromAnchor(first, last + 1);
